@@ -379,15 +379,26 @@ public final class BlockCells {
         int place = tape.faultPlace();
         if (place >= 0) return FAULT_AT - place;
         int width = tape.firstRowLength();
-        // Each row but the last has a '/' behind it.
-        int height = (tape.many + 1) / (width + 1);
+        int height = tape.howManyRows();
         if (!isSide(width) || !isSide(height)) return ODD_SIDES;
         now.grid.becomeEmpty(width, height);
-        for (int i = 0; i < tape.many; i++) {
-            if (tape.byteAt(i) == '#') now.grid.flip(i % (width + 1), i / (width + 1));
-        }
+        fillFromTape();
         changes.empty();
         return now.grid.ones();
+    }
+
+    private void fillFromTape() {
+        int x = 0;
+        int y = 0;
+        for (int i = 0; i < tape.many; i++) {
+            if (tape.byteAt(i) == '/') {
+                x = 0;
+                y++;
+            } else {
+                if (tape.byteAt(i) == '#') now.grid.flip(x, y);
+                x++;
+            }
+        }
     }
 
     // Every array of ints is used through these two: no index goes unlooked at.
@@ -804,6 +815,7 @@ public final class BlockCells {
         // Cells thing by thing, each thing's first cell first.
         private final int[] places = new int[ALL_CELLS];
         private int placed = 0;
+        // Where each thing's cells start: the first one's at 0, the next one's where the last one's end.
         private final int[] starts = new int[MOST_THINGS + 1];
         private final int[] shapeOfThing = new int[MOST_THINGS];
         private final int[] models = new int[MOST_THINGS];
@@ -855,10 +867,10 @@ public final class BlockCells {
         }
 
         private void gather(int x, int y) {
-            put(starts, many, placed);
+            int start = placed;
             join(x, y);
             // Cells that join on the way are looked round in their turn.
-            for (int i = at(starts, many); i < placed && i < places.length; i++) joinNeighbours(places[i]);
+            for (int i = start; i < placed && i < places.length; i++) joinNeighbours(places[i]);
             many++;
             put(starts, many, placed);
         }
@@ -962,6 +974,14 @@ public final class BlockCells {
                 if (byteAt(i) == '/') return i;
             }
             return many;
+        }
+
+        int howManyRows() {
+            int ends = 1;
+            for (int i = 0; i < many; i++) {
+                if (byteAt(i) == '/') ends++;
+            }
+            return ends;
         }
     }
 

@@ -56,6 +56,10 @@ public final class GridAndRuleTest {
         due(2, "no CHANGE is left", x.told(5), 0);
         due(2, "nothing to undo", x.undo(), BlockCells.STATE);
         due(2, "the RULE stays", x.becomes(1, false), 2);
+        x.toggle(3, 1);
+        x.size(16, 2);
+        due(2, "no CHANGE of this TIME is left", x.told(5), 0);
+        due(2, "nothing to undo", x.undo(), BlockCells.STATE);
         x.toggle(15, 1);
         int[][] bad = {{0, 2}, {2, 0}, {3, 2}, {2, 3}, {18, 2}, {2, 18}, {-2, 2}, {2, -2}, {17, 16}, {1, 1}};
         for (int[] pair : bad) due(2, "BAD size", x.size(pair[0], pair[1]), BlockCells.BAD);

@@ -146,7 +146,6 @@ public final class ModelTest {
     private String call(int which) {
         int a, b, c, d;
         boolean back;
-        long v;
         switch (which) {
             case 0: a = seldom() ? number(2, 16) : evenSide(); b = seldom() ? number(2, 16) : evenSide(); size(a, b); return "size " + a + " " + b;
             case 1: a = x(); b = y(); answers(cells.toggle(a, b), model.toggle(a, b)); return "toggle " + a + " " + b;

@@ -131,9 +131,11 @@ public final class TextsTest {
     private static void list() {
         BlockCells x = new BlockCells();
         for (int list = 0; list < 4; list++) due(25, "LIST " + list, x.list(list, 20), 1);
+        x.set(2, 0, 4);
         x.set(2, 19, 5);
         x.set(1, 19, 6);
         due(25, "anew", x.list(2, 20), 1);
+        due(25, "all 0", x.get(2, 0), 0);
         due(25, "all 0", x.get(2, 19), 0);
         due(25, "others stay", x.get(1, 19), 6);
         due(25, "shorter", x.list(1, 3), 1);
@@ -253,6 +255,8 @@ public final class TextsTest {
         x.list(0, 7);
         x.lay(0, 2);
         due(30, "none is otherwise", x.judge(0, 2), -5);
+        x.set(0, 6, 1);
+        due(30, "what is behind H rows isn't looked at", x.judge(0, 2), -5);
         due(30, "the first is otherwise", x.judge(0, 0), 0);
         x.set(0, 2 + 3, 13);
         due(30, "the last is otherwise", x.judge(0, 2), 3);

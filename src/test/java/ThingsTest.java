@@ -77,6 +77,7 @@ public final class ThingsTest {
         BlockCells x = Check.of("##..#.../......../#...##../......../.#..#.../.#....../......../........");
         due(6, "THINGS", x.told(6), 6);
         due(6, "SHAPES", x.told(7), 3);
+        due(6, "SHAPES once more", x.told(7), 3);
         shape("two beside", x, 0, 2, 2, 0);
         shape("one", x, 1, 3, 1, 400);
         shape("two below", x, 2, 1, 2, 104);
