@@ -5,7 +5,9 @@ public final class TextsTest {
     public static void main(String[] args) {
         feed();
         read();
+        readGreatest();
         faults();
+        faultsOfLongTexts();
         oddSides();
         spell();
         paper();
@@ -55,14 +57,20 @@ public final class TextsTest {
         due(22, "no CHANGE is left", x.told(5), 0);
         due(22, "THE TAPE is empty", x.count(2), 0);
         CHECK.grid(22, "as read", x, "#..#/.#../..../...#");
-        String row = "#..............#";
-        String whole = row + ("/" + row).repeat(15);
-        due(22, "16 by 16", Check.read(x, whole), 32);
-        due(22, "W", x.told(0), 16);
-        due(22, "H", x.told(1), 16);
-        CHECK.grid(22, "16 by 16", x, whole);
         due(22, "2 by 2", Check.read(x, "../#."), 1);
         CHECK.grid(22, "2 by 2", x, "../#.");
+    }
+
+    private static void readGreatest() {
+        String row = "#..............#";
+        BlockCells x = new BlockCells();
+        due(22, "16 by 16", Check.read(x, row + ("/" + row).repeat(15)), 32);
+        due(22, "W", x.told(0), 16);
+        due(22, "H", x.told(1), 16);
+        for (int y = 0; y < 16; y++) {
+            for (int column = 0; column < 7; column++) due(22, "16 by 16 as read", x.cell(column, y), row.charAt(column) == '#' ? 1 : 0);
+            due(22, "16 by 16 as read", x.cell(15, y), 1);
+        }
     }
 
     private static void faults() {
@@ -76,14 +84,22 @@ public final class TextsTest {
             -108, -107, -107, -101, -105, -103, -106, -103, -106,
         };
         for (int i = 0; i < texts.length; i++) due(22, "text " + texts[i], Check.read(x, texts[i]), faults[i]);
-        due(22, "a 17th sign", Check.read(x, ".".repeat(17)), -116);
-        due(22, "a 17th sign in the second row", Check.read(x, ".".repeat(16) + "/" + ".".repeat(17)), -133);
-        due(22, "a / behind the 16th row", Check.read(x, ".." + "/..".repeat(15) + "/"), -147);
-        due(22, "a 17th row", Check.read(x, ".." + "/..".repeat(16)), -147);
-        due(22, "behind 15 rows", Check.read(x, ".." + "/..".repeat(14) + "/"), -145);
-        due(22, "256 and more", Check.read(x, ".".repeat(16) + ("/" + ".".repeat(16)).repeat(15) + "."), -371);
         CHECK.grid(22, "FAULTS", x, "#./.#");
         due(22, "THE TAPE is empty", x.count(2), 0);
+    }
+
+    private static void faultsOfLongTexts() {
+        String[] texts = {
+            ".".repeat(17), ".".repeat(16) + "/" + ".".repeat(17), ".." + "/..".repeat(15) + "/", ".." + "/..".repeat(16),
+            ".." + "/..".repeat(14) + "/", ".".repeat(16) + ("/" + ".".repeat(16)).repeat(15) + ".",
+        };
+        int[] faults = {-116, -133, -147, -147, -145, -371};
+        for (int i = 0; i < texts.length; i++) {
+            BlockCells x = Check.of("#./.#");
+            due(22, "text " + texts[i], Check.read(x, texts[i]), faults[i]);
+            CHECK.grid(22, "FAULTS", x, "#./.#");
+            due(22, "THE TAPE is empty", x.count(2), 0);
+        }
     }
 
     private static void oddSides() {
