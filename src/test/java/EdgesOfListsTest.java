@@ -25,6 +25,7 @@ public final class EdgesOfListsTest {
         judgeRefused();
         judgeShort();
         judgeOtherwise();
+        judgeAsks();
         judgeBits();
         EDGES.end();
     }
@@ -276,6 +277,12 @@ public final class EdgesOfListsTest {
         EDGES.is(30, "otherwise ahead of the end", 2, x -> { laid(x, 16, 3, 0); x.set(0, 2, 0); return x.judge(0, 0); });
         EDGES.is(30, "an empty GRID, a full row", 0, x -> { x.size(16, 16); x.list(0, 16); x.set(0, 0, 65535); return x.judge(0, 0); });
         EDGES.is(30, "a full GRID, an empty row", 0, x -> { Edges.full(x, 16, 16); x.list(0, 16); return x.judge(0, 0); });
+    }
+
+    private static void judgeAsks() {
+        EDGES.leaves(30, "what is asked changes nothing: none is otherwise", -5, x -> { Edges.rich(x); x.lay(3, 14); }, x -> x.judge(3, 14));
+        EDGES.leaves(30, "what is asked changes nothing: the last is otherwise", 5, x -> { Edges.rich(x); x.lay(0, 0); x.set(0, 5, -1); }, x -> x.judge(0, 0));
+        EDGES.leaves(30, "what is asked changes nothing: it ends ahead of that", 105, x -> { Edges.rich(x); x.lay(3, 15); }, x -> x.judge(3, 15));
     }
 
     private static void judgeBits() {

@@ -28,6 +28,7 @@ public final class EdgesOfSeenTest {
         backGrids();
         backTimes();
         backTables();
+        backTwice();
         backStays();
         countEnds();
         countFull();
@@ -118,6 +119,11 @@ public final class EdgesOfSeenTest {
         EDGES.is(32, "n 0: otherwise by none", 0, x -> { ball.on(x); x.see(0, 0, 0); return x.fits(); });
         EDGES.is(32, "n 11 and n 12: each from now", 16, x -> { ball.on(x); x.see(11, 1111, 1); x.see(12, 1212, 1); return x.fits(); });
         EDGES.is(32, "n -12 and n 12: each from now", 16, x -> { ball.on(x); x.see(-12, 404, 1); x.see(12, 1212, 1); return x.fits(); });
+        for (int word = 0; word < 5; word++) {
+            int own = word;
+            EDGES.is(32, "n 12, whatever the RULE now is, " + word, 16, x -> { ball.on(x); x.rule(own); x.see(12, 1212, 1); return x.fits(); });
+        }
+        EDGES.is(32, "n 12, whatever the RULE now is, by exchanges", 16, x -> { ball.on(x); x.change(0, 15); x.see(12, 1212, 1); return x.fits(); });
         EDGES.is(32, "n -1, the last corner", 16 + 8, x -> { ball.on(x); x.see(-1, 1515, 1); return x.fits(); });
         EDGES.is(32, "word 0 is bit 0", 1, x -> { ball.on(x); x.see(1, 0, 1); return x.fits(); });
         EDGES.is(32, "word 4 is bit 4", 16, x -> { ball.on(x); x.see(1, 101, 1); x.see(1, 100, 0); return x.fits(); });
@@ -342,6 +348,18 @@ public final class EdgesOfSeenTest {
             EDGES.is(36, "what STATE " + s + " becomes", 15 - s, x -> { x.change(0, 15); x.image(); x.rule(4); x.back(); return x.becomes(s, false); });
             EDGES.is(36, "what becomes STATE " + s, 15 - s, x -> { x.change(0, 15); x.image(); x.rule(4); x.back(); return x.becomes(s, true); });
         }
+    }
+
+    /** What comes behind back() goes to the object, not to THE IMAGE. */
+    private static void backTwice() {
+        EDGES.is(36, "SEEN that come behind it are gone the second time", 0, x -> { x.image(); x.back(); rows(x, 5); x.back(); return x.count(0); });
+        EDGES.is(36, "SEEN that go behind it come the second time", 5, x -> { rows(x, 5); x.image(); x.back(); x.see(0, 0, -1); x.back(); return x.count(0); });
+        EDGES.is(36, "EVENTS that come behind it are gone the second time", 0, x -> { x.image(); x.back(); events(x, 8); x.back(); return x.count(1); });
+        EDGES.is(36, "EVENTS that go behind it come the second time", 8, x -> { events(x, 8); x.image(); x.back(); x.event(-1, 0); x.back(); return x.count(1); });
+        EDGES.is(36, "a RULE that comes behind it is gone the second time", 0, x -> { x.image(); x.back(); x.change(0, 15); x.back(); return x.rule(4); });
+        EDGES.is(36, "a TIME that comes behind it is gone the second time", 1, x -> { Edges.toTime(x, -9999); x.image(); x.back(); x.steps(200); x.back(); return x.told(2); });
+        EDGES.is(36, "sides that come behind it are gone the second time", 1602, x -> { x.size(16, 2); x.image(); x.back(); x.size(2, 16); x.back(); return x.size(8, 8); });
+        EDGES.is(36, "CELLS of the second time", 256, x -> { Edges.full(x, 16, 16); x.image(); x.back(); x.size(2, 2); return x.back(); });
     }
 
     private static void backStays() {

@@ -169,6 +169,9 @@ public final class EdgesOfTextsTest {
         EDGES.is(22, "THE TAPE is empty behind a FAULT of kind 1", 0, x -> { Check.read(x, "../."); return x.count(2); });
         EDGES.is(22, "THE TAPE is empty behind a FAULT of kind 2", 0, x -> { Check.read(x, ".."); return x.count(2); });
         EDGES.is(22, "THE TAPE is empty behind a full one", 0, x -> { dots(x, 300); x.read(); return x.count(2); });
+        EDGES.is(22, "a longer text was read: its next / doesn't count", 1, x -> { Check.read(x, "../../../.."); return Check.read(x, "../.#"); });
+        EDGES.is(22, "a longer text was read: its next / makes no second row", -500, x -> { Check.read(x, "../../../.."); return Check.read(x, ".."); });
+        EDGES.is(22, "a longer text was read: its next sign doesn't count", -104, x -> { Check.read(x, "####/####"); return Check.read(x, "../."); });
         EDGES.is(22, "what was read is not read again", 1, x -> { Check.read(x, "##/##"); return Check.read(x, "../.#"); });
     }
 
@@ -210,7 +213,6 @@ public final class EdgesOfTextsTest {
         EDGES.is(23, "a shorter one becomes a longer one", '.', x -> { x.size(2, 2); x.spell(); x.size(16, 16); x.spell(); return x.paper(270); });
     }
 
-    /** The object's PAPER is spelled already: once more at TIME -3 it is another one. */
     private static void spellStays() {
         EDGES.leaves(23, "once more, THE PAPER is the same", 29, x -> { Edges.rich(x); x.spell(); }, x -> x.spell());
         EDGES.is(23, "CHANGES stay", 12, x -> { Edges.changes(x, 12); x.spell(); return x.told(5); });

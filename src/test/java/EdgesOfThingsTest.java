@@ -14,6 +14,7 @@ public final class EdgesOfThingsTest {
         thingMost();
         thingAtRefused();
         thingAtRim();
+        lessThanBefore();
         shapeNumbers();
         shapeMost();
         shapesRound();
@@ -153,6 +154,18 @@ public final class EdgesOfThingsTest {
         EDGES.leaves(19, "of a full GRID", 0, x -> Edges.full(x, 16, 16), x -> x.thingAt(15, 15));
     }
 
+    /** What was found on a greater GRID is no more. */
+    private static void lessThanBefore() {
+        EDGES.is(6, "64 THINGS, then an empty GRID", 0, x -> { Edges.apart(x); x.told(6); x.size(2, 2); return x.told(6); });
+        EDGES.is(6, "64 THINGS, then an empty GRID: SHAPES", 0, x -> { Edges.apart(x); x.told(7); x.size(2, 2); return x.told(7); });
+        EDGES.is(18, "64 THINGS, then one of four CELLS", 4, x -> { Edges.apart(x); x.told(6); Edges.full(x, 2, 2); return x.thing(0, 0); });
+        EDGES.is(18, "64 THINGS, then one: no second", NONE, x -> { Edges.apart(x); x.told(6); Edges.full(x, 2, 2); return x.thing(1, 0); });
+        EDGES.is(19, "a full GRID, then an empty one", NEVER, x -> { Edges.full(x, 16, 16); x.told(6); x.size(16, 16); return x.thingAt(15, 15); });
+        EDGES.is(19, "a full GRID, then a CELL is 0", NEVER, x -> { Edges.full(x, 16, 16); x.told(6); x.toggle(15, 15); return x.thingAt(15, 15); });
+        EDGES.is(20, "64 THINGS, then one", 1, x -> { Edges.apart(x); x.shape(0, 0); Edges.full(x, 2, 2); return x.shape(0, 0); });
+        EDGES.is(6, "behind what EVENTS would leave", 1, x -> { x.toggle(0, 0); x.event(2, 404); x.after(1); return x.told(6); });
+    }
+
     private static void shapeNumbers() {
         Edges.Ahead two = x -> Check.read(x, "#....#../......../..##..../......../......../........");
         for (int what = 0; what < 3; what++) {
@@ -208,6 +221,11 @@ public final class EdgesOfThingsTest {
         shapes("as many CELLS, one elsewhere", 2, "##....../#......./......../.##...../..#...../........");
         shapes("one CELL more", 2, "##....../......../......../.###..../......../........");
         shapes("one CELL less", 2, "###...../......../......../.##...../......../........");
+        shapes("two alike, none in the first row", 1, "......../.##...../.#....../......../....##../....#...");
+        shapes("two alike but for one CELL, none in the first row", 2, "......../.##...../.#....../......../....##../.....#..");
+        shapes("two alike, both round the right edge, none in the first row", 1, "......../......../#......#/......../#......#/........");
+        shapes("a square round the last row and a square", 2, ".....##./......../.##...../.##...../......../.....##.");
+        shapes("a square round the right edge and a square", 2, "......../.##...../.##...../......../#......#/#......#");
         shapes("one alone at a corner and one within", 1, "#......./......../......../...#..../......../........");
     }
 }

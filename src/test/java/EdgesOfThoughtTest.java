@@ -21,8 +21,11 @@ public final class EdgesOfThoughtTest {
         movedEnds();
         movedShifts();
         movedLeast();
+        movedEven();
         movedTimes();
+        askedTwice();
         unlikeEnds();
+        unlikeGreatest();
         unlikeTimes();
         EDGES.end();
     }
@@ -174,13 +177,16 @@ public final class EdgesOfThoughtTest {
         EDGES.is(14, "empty and upper left exchanged: a and d are 0", 1, x -> { exchanged(x, 0, 1); return x.kept(0, 9, -9, 0); });
         EDGES.is(14, "empty and upper left exchanged: not by PHASE 0", 0, x -> { exchanged(x, 0, 1); return x.kept(1, 0, 0, 0); });
         EDGES.is(14, "empty and upper left exchanged: not by PHASE 1", 0, x -> { exchanged(x, 0, 1); return x.kept(0, 0, 0, 1); });
+        EDGES.is(14, "at an odd TIME: not by PHASE 0", 0, x -> { x.steps(1); exchanged(x, 0, 1); return x.kept(1, 0, 0, 0); });
+        EDGES.is(14, "at an odd TIME: not by PHASE 1", 0, x -> { x.steps(1); exchanged(x, 0, 1); return x.kept(0, 0, 0, 1); });
         EDGES.is(14, "empty and upper right exchanged: b and c are 0", 1, x -> { exchanged(x, 0, 2); return x.kept(9, 0, 0, -9); });
         EDGES.is(14, "empty and upper right exchanged: not by PHASE 0", 0, x -> { exchanged(x, 0, 2); return x.kept(0, 1, 0, 0); });
         EDGES.is(14, "empty and upper right exchanged: not by PHASE 1", 0, x -> { exchanged(x, 0, 2); return x.kept(0, 0, 1, 0); });
         EDGES.is(14, "empty and lower left exchanged: b and c are 0", 1, x -> { exchanged(x, 0, 4); return x.kept(9, 0, 0, -9); });
         EDGES.is(14, "empty and lower left exchanged: not by PHASE 0", 0, x -> { exchanged(x, 0, 4); return x.kept(0, 0, 1, 0); });
         EDGES.is(14, "empty and lower left exchanged: not by PHASE 1", 0, x -> { exchanged(x, 0, 4); return x.kept(0, 1, 0, 0); });
-        EDGES.is(14, "upper two for lower left: by both PHASES", 1, x -> { exchanged(x, 3, 4); return x.kept(1, 2, 3, -1) + x.kept(1, 1, 2, -1) - 1; });
+        EDGES.is(14, "upper two for lower left: by both PHASES", 1, x -> { exchanged(x, 3, 4); return x.kept(1, 2, 3, -1); });
+        EDGES.is(14, "upper two for lower left: by both PHASES, other WEIGHTS", 1, x -> { exchanged(x, 3, 4); return x.kept(1, 1, 2, -1); });
         EDGES.is(14, "upper two for lower left: by PHASE 0 alone", 0, x -> { exchanged(x, 3, 4); return x.kept(1, 2, 3, 4); });
         EDGES.is(14, "upper two for lower left: by PHASE 1 alone", 0, x -> { exchanged(x, 3, 4); return x.kept(4, 3, 1, 2); });
     }
@@ -206,12 +212,8 @@ public final class EdgesOfThoughtTest {
         EDGES.leaves(15, "behind 2 STEPS: the least GRID", 2, x -> { x.size(2, 2); x.toggle(0, 0); }, x -> x.again());
         EDGES.is(15, "behind 128 STEPS, the greatest", 128, x -> { round128(x); return x.again(); });
         EDGES.is(15, "behind 130 STEPS: no longer", NEVER, x -> { round130(x); return x.again(); });
-        EDGES.is(15, "behind 130 STEPS: it is as it was", 1, x -> {
-            round130(x);
-            x.steps(130);
-            return x.cell(2, 1) + x.cell(3, 3) + x.told(4) == 4 ? 1 : 0;
-        });
-        EDGES.leaves(15, "-5 changes nothing", NEVER, x -> { Check.read(x, "....../..#.../....../...#.."); x.change(0, 12); }, x -> x.again());
+        EDGES.grid(15, "behind 130 STEPS: it is as it was", "....../..#.../....../...#..", x -> { round130(x); x.steps(130); });
+        EDGES.leaves(15, "-5 changes nothing", NEVER, EdgesOfThoughtTest::round130, x -> x.again());
         EDGES.is(15, "behind 1 STEP it is as now: n is even", 4, x -> { Check.read(x, "##../##../..../...."); return x.again(); });
         EDGES.is(15, "2 by 2 by turn, closed round", 4, x -> { x.size(2, 2); x.rule(1); x.toggle(0, 0); return x.again(); });
         EDGES.is(15, "once round the greatest GRID", 16, x -> { x.size(16, 16); x.toggle(15, 15); return x.again(); });
@@ -315,6 +317,22 @@ public final class EdgesOfThoughtTest {
         });
     }
 
+    /** Shifted as now by 1, 2 and all its multiples, or by 2, 1: dx and dy are even. */
+    private static void movedEven() {
+        shift("by 1, 2 and 2, 4 and so on: dx is even", 2, 4, x -> {
+            x.size(8, 16);
+            x.rule(0);
+            for (int i = 0; i < 8; i++) x.toggle(i, 2 * i);
+        });
+        shift("by 2, 1 and 4, 2 and so on: dy is even", 4, 2, x -> {
+            x.size(16, 8);
+            x.rule(0);
+            for (int i = 0; i < 8; i++) x.toggle(2 * i, i);
+        });
+        EDGES.is(16, "by 3 of 6 columns alone: dx is even", NEVER, x -> { x.size(6, 6); x.rule(0); x.toggle(0, 0); x.toggle(3, 0); return x.moved(0); });
+        EDGES.is(16, "by 3 of 6 rows alone: dy is even", NEVER, x -> { x.size(6, 6); x.rule(0); x.toggle(0, 0); x.toggle(0, 3); return x.moved(0); });
+    }
+
     private static void movedTimes() {
         for (int time : new int[] {-9999, -1, 1, 9999}) {
             shift("from TIME " + time + " by PHASE 1 first", 12, 12, x -> ballAt(x, time));
@@ -322,6 +340,14 @@ public final class EdgesOfThoughtTest {
         for (int time : new int[] {-9998, -2, 2, 9998}) {
             shift("from TIME " + time + " by PHASE 0 first", 2, 2, x -> ballAt(x, time));
         }
+    }
+
+    private static void askedTwice() {
+        EDGES.is(15, "asked twice", 128, x -> { round128(x); x.again(); return x.again(); });
+        EDGES.is(15, "asked behind n 64 of UNLIKE", 128, x -> { round128(x); x.unlike(64); return x.again(); });
+        EDGES.is(16, "dx asked behind n", 14, x -> { x.size(16, 16); x.toggle(1, 0); x.moved(0); return x.moved(1); });
+        EDGES.is(16, "not MOVED behind MOVED", NEVER, x -> { x.toggle(0, 0); x.moved(1); x.size(2, 2); return x.moved(1); });
+        EDGES.is(12, "60 asked behind -60", 1, x -> { ballAt(x, 0); x.then(0, 0, -60); return x.then(4, 4, 60); });
     }
 
     private static void unlikeEnds() {
@@ -340,6 +366,26 @@ public final class EdgesOfThoughtTest {
         EDGES.is(17, "two unlike in the last CELL alone", 2, x -> { x.size(2, 2); x.change(0, 8); return x.unlike(1); });
         EDGES.is(17, "the least GRID", 2, x -> { x.size(2, 2); x.toggle(0, 0); return x.unlike(64); });
         EDGES.is(17, "CELLS alone, not TIME", 1, x -> { x.toggle(0, 0); x.rule(0); return x.unlike(64); });
+    }
+
+    private static void unlikeGreatest() {
+        EDGES.is(17, "n 64, all unlike, 16 high", 65, x -> { x.size(14, 16); x.toggle(0, 0); return x.unlike(64); });
+        EDGES.is(17, "n 64, four times round from the middle", 16, x -> { x.size(16, 16); x.toggle(4, 4); return x.unlike(64); });
+        EDGES.is(17, "n 64, the last as the last but one", 64, x -> { lastAlike(x); return x.unlike(64); });
+        EDGES.is(17, "n 63, ahead of that", 64, x -> { lastAlike(x); return x.unlike(63); });
+        EDGES.is(17, "n 64, asked twice", 65, x -> { round128(x); x.unlike(64); return x.unlike(64); });
+        EDGES.is(17, "n 0, asked behind n 64", 1, x -> { round128(x); x.unlike(64); return x.unlike(0); });
+    }
+
+    /** At TIME 63 each BLOCK holds two CELLS side by side: by ball the GRID stays for that STEP. */
+    private static void lastAlike(BlockCells x) {
+        x.size(14, 16);
+        x.steps(63);
+        x.toggle(9, 1);
+        x.toggle(9, 2);
+        x.toggle(11, 8);
+        x.toggle(12, 8);
+        x.steps(-63);
     }
 
     private static void unlikeTimes() {
