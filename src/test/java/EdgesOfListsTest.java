@@ -189,6 +189,14 @@ public final class EdgesOfListsTest {
         EDGES.grid(29, "from place 16 of 20: row by row", "#.../##../#.../##..", x -> { ones(x, 4, 20); x.load(0, 16); });
         EDGES.is(29, "the least GRID", 3, x -> { ones(x, 2, 2); return x.load(0, 0); });
         EDGES.is(29, "the greatest GRID from place 4 of 20", 24, x -> { ones(x, 16, 20); return x.load(0, 4); });
+        EDGES.is(29, "2 by 16: the last row, too", 2, x -> { x.size(2, 16); x.list(0, 16); x.set(0, 15, -1); return x.load(0, 0); });
+        EDGES.is(29, "2 by 16: the last row of a full GRID, too", 30, x -> {
+            Edges.full(x, 2, 16);
+            x.list(0, 16);
+            for (int i = 0; i < 15; i++) x.set(0, i, 3);
+            return x.load(0, 0);
+        });
+        EDGES.is(29, "16 by 2: two places are enough", 16, x -> { x.size(16, 2); x.list(0, 2); x.set(0, 1, -1); return x.load(0, 0); });
         EDGES.is(29, "all 0: COUNT", 0, x -> { Edges.full(x, 16, 16); x.list(0, 16); return x.load(0, 0); });
         EDGES.is(29, "all -1: COUNT", 256, x -> { x.size(16, 16); x.list(0, 16); for (int i = 0; i < 16; i++) x.set(0, i, -1); return x.load(0, 0); });
         EDGES.is(29, "W and H stay", 416, x -> { x.size(4, 16); x.list(0, 20); x.load(0, 0); return 100 * x.told(0) + x.told(1); });

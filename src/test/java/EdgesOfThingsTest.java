@@ -18,6 +18,7 @@ public final class EdgesOfThingsTest {
         shapeNumbers();
         shapeMost();
         shapesRound();
+        shapesOblong();
         shapesWhole();
         EDGES.end();
     }
@@ -214,6 +215,40 @@ public final class EdgesOfThingsTest {
         shapes("two rows, each a ring", 1, "########/......../......../########/......../........");
         shapes("two columns, each a ring", 1, "#...#.../#...#.../#...#.../#...#.../#...#.../#...#...");
         shapes("a row that is a ring and a row short of one", 2, "########/......../......../#######./......../........");
+    }
+
+    /** As many rows more than columns as can be, and the other way. */
+    private static void shapesOblong() {
+        EDGES.is(20, "2 by 16: two alike, far down", 1, x -> { x.size(2, 16); x.toggle(0, 0); x.toggle(1, 13); return x.told(7); });
+        EDGES.is(20, "2 by 16: two alike, upright, far down", 1, x -> {
+            x.size(2, 16);
+            for (int y : new int[] {1, 2, 13, 14}) x.toggle(0, y);
+            return x.told(7);
+        });
+        EDGES.is(20, "2 by 16: a row and a column", 2, x -> {
+            x.size(2, 16);
+            x.toggle(0, 2);
+            x.toggle(1, 2);
+            x.toggle(0, 13);
+            x.toggle(0, 14);
+            return x.told(7);
+        });
+        EDGES.is(20, "16 by 2: two alike, far on", 1, x -> { x.size(16, 2); x.toggle(0, 0); x.toggle(13, 1); return x.told(7); });
+        EDGES.is(20, "16 by 2: two alike, side by side, far on", 1, x -> {
+            x.size(16, 2);
+            for (int i : new int[] {1, 2, 13, 14}) x.toggle(i, 0);
+            return x.told(7);
+        });
+        EDGES.is(20, "16 by 2, behind 16 by 16 full: what was below is no more", 2, x -> {
+            Edges.full(x, 16, 16);
+            x.told(7);
+            x.size(16, 2);
+            x.toggle(0, 0);
+            x.toggle(0, 1);
+            x.toggle(8, 1);
+            x.toggle(9, 1);
+            return x.told(7);
+        });
     }
 
     private static void shapesWhole() {

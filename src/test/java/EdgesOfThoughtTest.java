@@ -64,6 +64,10 @@ public final class EdgesOfThoughtTest {
         EDGES.is(12, "2 by 2, 2 STEPS, closed round", 1, x -> { x.size(2, 2); x.toggle(0, 0); return x.then(0, 0, 2); });
         EDGES.is(12, "2 by 2, 1 BACK, closed round", 1, x -> { x.size(2, 2); x.toggle(0, 0); return x.then(1, 1, -1); });
         EDGES.is(12, "the last CELL of the greatest GRID", 1, x -> { x.size(16, 16); x.toggle(0, 0); return x.then(15, 15, -1); });
+        EDGES.is(12, "column 4, row 1, 0 STEPS", 1, x -> { x.size(6, 4); x.toggle(4, 1); return x.then(4, 1, 0); });
+        EDGES.is(12, "column 5, row 0, 1 STEP", 1, x -> { x.size(6, 4); x.toggle(4, 1); return x.then(5, 0, 1); });
+        EDGES.is(12, "column 1, row 4, 0 STEPS", 1, x -> { x.size(4, 6); x.toggle(1, 4); return x.then(1, 4, 0); });
+        EDGES.is(12, "column 0, row 5, 1 STEP", 1, x -> { x.size(4, 6); x.toggle(1, 4); return x.then(0, 5, 1); });
     }
 
     private static void thenTimes() {
@@ -127,6 +131,8 @@ public final class EdgesOfThoughtTest {
             });
         }
         EDGES.is(13, "the last CELL of the greatest GRID", 1000004, x -> { x.size(16, 16); x.toggle(15, 15); return x.sum(1, 2, 3, 4); });
+        EDGES.is(13, "the last CELL of 2 by 16", 1000004, x -> { x.size(2, 16); x.toggle(1, 15); return x.sum(1, 2, 3, 4); });
+        EDGES.is(13, "the last CELL of 16 by 2", 1000004, x -> { x.size(16, 2); x.toggle(15, 1); return x.sum(1, 2, 3, 4); });
     }
 
     private static void keptRefused() {
@@ -217,6 +223,8 @@ public final class EdgesOfThoughtTest {
         EDGES.is(15, "behind 1 STEP it is as now: n is even", 4, x -> { Check.read(x, "##../##../..../...."); return x.again(); });
         EDGES.is(15, "2 by 2 by turn, closed round", 4, x -> { x.size(2, 2); x.rule(1); x.toggle(0, 0); return x.again(); });
         EDGES.is(15, "once round the greatest GRID", 16, x -> { x.size(16, 16); x.toggle(15, 15); return x.again(); });
+        EDGES.is(15, "once round 2 by 16", 16, x -> { x.size(2, 16); x.toggle(1, 15); return x.again(); });
+        EDGES.is(15, "once round 16 by 2", 16, x -> { x.size(16, 2); x.toggle(15, 1); return x.again(); });
         EDGES.is(15, "shifted is not again", 8, x -> { x.toggle(0, 0); return x.again(); });
     }
 
@@ -364,6 +372,8 @@ public final class EdgesOfThoughtTest {
         EDGES.is(17, "n 64, a full GRID", 1, x -> { Edges.full(x, 16, 16); return x.unlike(64); });
         EDGES.is(17, "n 64, an empty GRID by flip", 2, x -> { x.size(16, 16); x.rule(3); return x.unlike(64); });
         EDGES.is(17, "two unlike in the last CELL alone", 2, x -> { x.size(2, 2); x.change(0, 8); return x.unlike(1); });
+        EDGES.is(17, "2 by 16, four times round", 16, x -> { x.size(2, 16); x.toggle(0, 0); return x.unlike(64); });
+        EDGES.is(17, "16 by 2, four times round", 16, x -> { x.size(16, 2); x.toggle(0, 0); return x.unlike(64); });
         EDGES.is(17, "the least GRID", 2, x -> { x.size(2, 2); x.toggle(0, 0); return x.unlike(64); });
         EDGES.is(17, "CELLS alone, not TIME", 1, x -> { x.toggle(0, 0); x.rule(0); return x.unlike(64); });
     }
